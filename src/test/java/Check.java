@@ -44,6 +44,13 @@ final class Check {
         return bank;
     }
 
+    /** The states in the history, of which one is undone first: a fifth one would not be seen. */
+    static int statesWithRoom(TurnstileBank bank) {
+        bank.setFare(bank.count(9));
+        bank.undo();
+        return bank.count(11);
+    }
+
     /** All that a bank tells, but for the text and the history. */
     static String told(TurnstileBank bank) {
         StringBuilder all = new StringBuilder();

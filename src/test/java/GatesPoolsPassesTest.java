@@ -194,9 +194,7 @@ public final class GatesPoolsPassesTest {
         TurnstileBank bank = Check.oneGate();
         Check.due("pass -1", bank.block(-1, true), UNKNOWN);
         Check.due("pass 12", bank.block(12, true), UNKNOWN);
-        bank.setFare(10);
-        bank.undo();
-        int recorded = bank.count(11);
+        int recorded = Check.statesWithRoom(bank);
         Check.due("valid already", bank.block(3, false), NONE);
         Check.due("that is not recorded", bank.count(11), recorded);
         Check.due("block(3, true)", bank.block(3, true), 1);
@@ -208,6 +206,7 @@ public final class GatesPoolsPassesTest {
         Check.due("block(3, false)", bank.block(3, false), 1);
         Check.due("passOf(3, 1)", bank.passOf(3, 1), 0);
         Check.due("block(11, false)", bank.block(11, false), 0);
+        Check.due("block(0, true)", bank.block(0, true), 1);
         blockedWhileInside();
     }
 
