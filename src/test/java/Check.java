@@ -51,55 +51,6 @@ final class Check {
         return bank.count(11);
     }
 
-    /** All that a bank tells, but for the text and the history. */
-    static String told(TurnstileBank bank) {
-        StringBuilder all = new StringBuilder();
-        for (int what = 0; what <= 10; what++) {
-            all.append(bank.count(what)).append(' ');
-        }
-        for (int gate = 0; gate < bank.count(1); gate++) {
-            all.append("\ngate");
-            for (int what = 0; what <= 10; what++) {
-                all.append(' ').append(bank.gate(gate, what));
-            }
-            for (int end = 0; end <= 1; end++) {
-                all.append(" |");
-                for (int place = 0; place <= 40; place++) {
-                    int person = bank.queued(gate, end, place);
-                    if (person != TurnstileBank.NONE) {
-                        all.append(' ').append(person);
-                    }
-                }
-            }
-        }
-        for (int person = 0; person < bank.count(2); person++) {
-            all.append("\nperson");
-            for (int what = 0; what <= 5; what++) {
-                all.append(' ').append(bank.person(person, what));
-            }
-            all.append(' ').append(bank.passesIn(person));
-        }
-        for (int pool = 0; pool < 4; pool++) {
-            all.append("\npool");
-            for (int what = 0; what <= 4; what++) {
-                all.append(' ').append(bank.pool(pool, what));
-            }
-        }
-        for (int pass = 0; pass < 12; pass++) {
-            all.append("\npass");
-            for (int what = 0; what <= 2; what++) {
-                all.append(' ').append(bank.passOf(pass, what));
-            }
-        }
-        for (int event = 0; event <= 20; event++) {
-            all.append("\nevent");
-            for (int what = 0; what <= 3; what++) {
-                all.append(' ').append(bank.event(event, what));
-            }
-        }
-        return all.toString();
-    }
-
     static void end(String test) {
         System.out.println(test + ": " + compared + " answers, " + wrong + " not as due");
         if (wrong != 0 || compared == 0) {

@@ -30,7 +30,8 @@ public final class FaceTest {
         Check.due("public", Modifier.isPublic(constructors[0].getModifiers()));
         for (Class<?> inside : TurnstileBank.class.getDeclaredClasses()) {
             Check.due(inside + " is static", Modifier.isStatic(inside.getModifiers()));
-            Check.due(inside + " is private", Modifier.isPrivate(inside.getModifiers()));
+            Check.due(inside + " is hidden", !Modifier.isPublic(inside.getModifiers())
+                    && !Modifier.isProtected(inside.getModifiers()));
             fieldsAreFew(inside);
         }
         fieldsAreFew(TurnstileBank.class);

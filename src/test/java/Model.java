@@ -453,7 +453,7 @@ final class Model {
     }
 
     int run() {
-        String gate = s.gates.isEmpty() ? "(?!)" : "[0-" + (s.gates.size() - 1) + "]";
+        String gate = s.gates.isEmpty() ? "[^\\s\\S]" : "[0-" + (s.gates.size() - 1) + "]";
         String order = "(?:i" + gate + "(?:p(?:0|[1-9][0-9]?))?s?|o" + gate
                 + "n(?:0|[1-9][0-9]?)|t[1-9][0-9]?|x" + gate + ")";
         Pattern all = Pattern.compile(order + "+");

@@ -1,3 +1,5 @@
+import java.util.function.Supplier;
+
 /** Promises 16 to 19: the text, its orders, undo. */
 public final class OrdersTest {
     private static final int FULL = TurnstileBank.FULL;
@@ -48,9 +50,14 @@ public final class OrdersTest {
         Check.due("time", bank.count(0), 2);
     }
 
-    private static void promise18Faults() {
+    /** A bank with gates 0 and 1; the latest act has added gate 1. */
+    private static TurnstileBank twoGates() {
         TurnstileBank bank = Check.oneGate();
         bank.addGate(0, 1, 1, 1);
+        return bank;
+    }
+
+    private static void promise18Faults() {
         String[] texts = {"", "i", "i2", "ia", "ip", "i9", "i0p", "i0pa", "i0p01", "i0p123", "i0sp1",
             "i0ss", "i0 ", "o", "o2", "o0", "o0p", "o0n", "o0na", "o0n00", "o0n123", "o0n1s", "t",
             "t0", "ta", "t100", "t01", "t1s", "x", "x2", "x0s", "x00", "a", "I0", " i0", "1", "s",
@@ -62,15 +69,14 @@ public final class OrdersTest {
             3, 7, 5, 16, 4, 2, 2, 2,
             1, 1, 2, 1, 1, 2, 2, 1, 1, 3, 3};
         Check.due("rows", texts.length, faults.length);
-        String before = Check.told(bank);
-        int recorded = Check.statesWithRoom(bank);
         for (int row = 0; row < texts.length; row++) {
+            TurnstileBank bank = twoGates();
             Check.due("fault of '" + texts[row] + "'", Check.runText(bank, texts[row]),
                     -100 - faults[row]);
             Check.due("the text stays", bank.count(12), texts[row].length());
+            Check.due("nothing is recorded", bank.undo(), 3);
+            Check.due("the last act is undone, no other", bank.count(1), 1);
         }
-        Check.due("nothing is done", Check.told(bank).equals(before));
-        Check.due("nothing is recorded", bank.count(11), recorded);
     }
 
     private static void promise18FaultsWithoutGates() {
@@ -128,23 +134,33 @@ public final class OrdersTest {
         Check.due("no room", Check.runText(bank, "t1i0t1"), 1);
     }
 
-    private static void promise18IsOneAct() {
+    private static TurnstileBank withoutHistory() {
         TurnstileBank bank = Check.oneGate();
         while (bank.undo() > 0) {
             continue;
         }
-        String before = Check.told(bank);
+        return bank;
+    }
+
+    private static TurnstileBank threeRuns() {
+        TurnstileBank bank = withoutHistory();
         Check.due("run()", Check.runText(bank, "i0p0t9o0n0t2x0"), 5);
         Check.due("it is one act", bank.count(11), 1);
         Check.due("first order wrong", Check.runText(bank, "o0n9"), 0);
         Check.due("that is one act, too", bank.count(11), 2);
         Check.due("only NONE", Check.runText(bank, "x0"), 1);
         Check.due("that is one act, too", bank.count(11), 3);
+        return bank;
+    }
+
+    private static void promise18IsOneAct() {
+        TurnstileBank bank = threeRuns();
         Check.due("undo()", bank.undo(), 2);
         Check.due("undo()", bank.undo(), 1);
         Check.due("undo()", bank.undo(), 0);
-        Check.due("as before", Check.told(bank).equals(before));
         Check.due("the text stays", bank.count(12), 2);
+        Check.due("as before", Whole.state(Whole.undone(OrdersTest::threeRuns, 3))
+                .equals(Whole.state(OrdersTest::withoutHistory)));
     }
 
     private static void promise18LongText() {
@@ -191,29 +207,37 @@ public final class OrdersTest {
         Check.due("time", bank.count(0), 3);
     }
 
-    private static void promise19RestoresAll() {
+    private static TurnstileBank muchGoesOn() {
         TurnstileBank bank = Check.oneGate();
         bank.addGate(2, 2, 2, 2);
         Check.runText(bank, "i0p0si0p1i1p2x0t9o0n0i0i0p7t3");
-        String before = Check.told(bank);
+        return bank;
+    }
+
+    private static int fourActs(TurnstileBank bank) {
         bank.fail(0);
-        Check.due("something changed", !Check.told(bank).equals(before));
         bank.divert(0, 1);
         bank.setFare(3);
         Check.runText(bank, "i0p4i0p5t90t90");
-        Check.due("states", bank.count(11), 4);
-        for (int i = 0; i < 4; i++) {
-            bank.undo();
-        }
-        Check.due("all is as before", Check.told(bank).equals(before));
+        return bank.count(11);
+    }
+
+    private static int fourMoreActs(TurnstileBank bank) {
         bank.addPool(1);
         bank.addPass(1);
         bank.block(1, true);
         bank.credit(0, 5);
-        for (int i = 0; i < 4; i++) {
-            bank.undo();
-        }
-        Check.due("all is as before", Check.told(bank).equals(before));
+        return bank.count(11);
+    }
+
+    private static void promise19RestoresAll() {
+        String before = Whole.state(OrdersTest::muchGoesOn);
+        Supplier<TurnstileBank> then = Whole.then(OrdersTest::muchGoesOn, OrdersTest::fourActs);
+        Check.due("something changed", !Whole.state(then).equals(before));
+        Check.due("all is as before", Whole.state(Whole.undone(then, 4)).equals(before));
+        then = Whole.then(Whole.undone(then, 4), OrdersTest::fourMoreActs);
+        Check.due("something changed", !Whole.state(then).equals(before));
+        Check.due("all is as before", Whole.state(Whole.undone(then, 4)).equals(before));
     }
 
     /** A bank in which much has happened already: each act changes something of it. */
@@ -263,21 +287,19 @@ public final class OrdersTest {
     }
 
     private static void promise19RestoresEachAct() {
-        for (int act = 0; act <= 14; act++) {
-            TurnstileBank bank = busyBank();
-            int states = Check.statesWithRoom(bank);
-            String before = Check.told(bank);
-            int answer = act(bank, act);
-            Check.due("act " + act + " stands", answer >= 0 || act == 12);
-            Check.due("act " + act + " is recorded", bank.count(11), states + 1);
-            Check.due("act " + act + " changes something", !Check.told(bank).equals(before));
-            Check.due("undo of act " + act, bank.undo(), states);
-            Check.due("act " + act + " is undone", Check.told(bank).equals(before));
-            Check.due("act " + act + " again", act(bank, act), answer);
-            String behind = Check.told(bank);
-            bank.pass(77);
-            bank.undo();
-            Check.due("act " + act + " is kept", Check.told(bank).equals(behind));
+        for (int number = 0; number <= 14; number++) {
+            int act = number;
+            Supplier<TurnstileBank> then = Whole.then(OrdersTest::busyBank, x -> act(x, act));
+            Supplier<TurnstileBank> again = Whole.then(Whole.undone(then, 1), x -> act(x, act));
+            Whole.act("act " + act, OrdersTest::busyBank, x -> act(x, act),
+                    act(busyBank(), act));
+            Check.due("act " + act + " stands", act(busyBank(), act) >= 0 || act == 12);
+            String behind = Whole.state(then);
+            Check.due("act " + act + " changes something",
+                    !behind.equals(Whole.state(OrdersTest::busyBank)));
+            Check.due("act " + act + " again", Whole.state(again).equals(behind));
+            Check.due("act " + act + " is kept", Whole.state(Whole.undone(
+                    Whole.then(again, x -> x.pass(77)), 1)).equals(behind));
         }
     }
 

@@ -2,18 +2,22 @@ import java.util.Random;
 
 /**
  * Promises 1 to 27 together: long runs of calls, the same ones each time, on the class and on the
- * model. Each answer is compared, and behind each call what is told.
+ * model. Each answer is compared, and behind each act some of what is told. No object is asked
+ * more than 512 times, as what it answers then is free.
  */
 public final class RandomRunsTest {
     private static final int[] ODD = {Integer.MIN_VALUE, -100, -5, -2, -1, 0, 4, 8, 12, 41, 50,
         201, 1001, 100001, Integer.MAX_VALUE};
-    private static final int RUNS = 200;
+    private static final int RUNS = 4000;
     private static final int CALLS = 512;
+    private static final int LONGEST_STEP = 52;
+    private static final int QUESTIONS = 4;
 
     private final Random random;
     private final TurnstileBank bank = new TurnstileBank();
     private final Model model = new Model();
-    private String call = "";
+    private final StringBuilder calls = new StringBuilder();
+    private int made = 0;
     private boolean alike = true;
 
     private RandomRunsTest(long seed) {
@@ -31,26 +35,30 @@ public final class RandomRunsTest {
     }
 
     private boolean agrees() {
-        StringBuilder calls = new StringBuilder();
-        for (int i = 0; i < CALLS; i++) {
-            oneCall(i);
-            calls.append(call).append('\n');
-            compareTold();
+        for (int step = 0; made + LONGEST_STEP + QUESTIONS <= CALLS; step++) {
+            oneCall(step);
+            for (int i = 0; i < QUESTIONS; i++) {
+                oneQuestion();
+            }
             if (!alike) {
                 System.out.println("the calls:\n" + calls);
                 return false;
             }
         }
-        return true;
+        while (made < CALLS) {
+            oneQuestion();
+        }
+        return alike;
     }
 
     private void due(String name, int got, int want) {
+        made++;
         Check.due(name, got, want);
         alike &= got == want;
     }
 
     private void answered(String name, int got, int want) {
-        call = name + " = " + got;
+        calls.append(name).append(" = ").append(got).append('\n');
         due(name, got, want);
     }
 
@@ -65,7 +73,7 @@ public final class RandomRunsTest {
     }
 
     private int oneGate() {
-        return oneOf(bank.count(1));
+        return oneOf(model.count(1));
     }
 
     private int onePass() {
@@ -74,9 +82,9 @@ public final class RandomRunsTest {
 
     /** A person who is inside, or of a few that were tried the last one. */
     private int somebodyInside() {
-        int person = oneOf(bank.count(2));
-        for (int i = 0; i < 10 && bank.person(person, 0) != 3; i++) {
-            person = oneOf(bank.count(2));
+        int person = oneOf(model.count(2));
+        for (int i = 0; i < 10 && model.person(person, 0) != 3; i++) {
+            person = oneOf(model.count(2));
         }
         return person;
     }
@@ -195,7 +203,7 @@ public final class RandomRunsTest {
     }
 
     private String anOrder() {
-        int gate = random.nextInt(20) == 0 ? 9 : random.nextInt(Math.max(1, bank.count(1)));
+        int gate = random.nextInt(20) == 0 ? 9 : random.nextInt(Math.max(1, model.count(1)));
         switch (random.nextInt(6)) {
             case 0:
                 return "i" + gate + (random.nextInt(6) == 0 ? "" : "p" + random.nextInt(13))
@@ -209,55 +217,54 @@ public final class RandomRunsTest {
         }
     }
 
-    private void compareTold() {
-        for (int what = -1; what <= 13; what++) {
-            due("count(" + what + ")", bank.count(what), model.count(what));
-        }
-        for (int gate = -1; gate <= 8; gate++) {
-            for (int what = -1; what <= 11; what++) {
+    private void oneQuestion() {
+        switch (random.nextInt(random.nextInt(6) == 0 ? 9 : 8)) {
+            case 0 -> {
+                int what = between(0, 12);
+                due("count(" + what + ")", bank.count(what), model.count(what));
+            }
+            case 1, 2 -> {
+                int gate = oneGate();
+                int what = between(0, 10);
                 due("gate(" + gate + ", " + what + ")", bank.gate(gate, what),
                         model.gate(gate, what));
             }
-            for (int end = 0; end <= 1; end++) {
-                for (int place = 0; place <= Math.max(0, bank.gate(gate, 4 + end)); place++) {
-                    due("queued(" + gate + ", " + end + ", " + place + ")",
-                            bank.queued(gate, end, place), model.queued(gate, end, place));
-                }
-            }
-        }
-        for (int person = -1; person <= bank.count(2); person++) {
-            for (int what = -1; what <= 6; what++) {
+            case 3 -> askOneQueue();
+            case 4 -> {
+                int person = oneOf(model.count(2));
+                int what = between(0, 5);
                 due("person(" + person + ", " + what + ")", bank.person(person, what),
                         model.person(person, what));
             }
-        }
-        for (int pool = -1; pool <= 4; pool++) {
-            for (int what = -1; what <= 5; what++) {
+            case 5 -> {
+                int pool = oneOf(4);
+                int what = between(0, 4);
                 due("pool(" + pool + ", " + what + ")", bank.pool(pool, what),
                         model.pool(pool, what));
             }
-        }
-        for (int pass = -1; pass <= 12; pass++) {
-            for (int what = -1; what <= 3; what++) {
+            case 6 -> {
+                int pass = oneOf(12);
+                int what = between(0, 2);
                 due("passOf(" + pass + ", " + what + ")", bank.passOf(pass, what),
                         model.passOf(pass, what));
             }
-        }
-        for (int event = -1; event <= 20; event++) {
-            for (int what = -1; what <= 4; what++) {
+            case 7 -> {
+                int event = random.nextInt(3) == 0 ? 0 : between(0, 20);
+                int what = between(0, 3);
                 due("event(" + event + ", " + what + ")", bank.event(event, what),
                         model.event(event, what));
             }
+            default -> {
+                int person = oneOf(model.count(2));
+                due("passesIn(" + person + ")", bank.passesIn(person), model.passesIn(person));
+            }
         }
-        compareOneOfMany();
     }
 
-    private void compareOneOfMany() {
-        int person = oneOf(bank.count(2));
-        due("passesIn(" + person + ")", bank.passesIn(person), model.passesIn(person));
+    private void askOneQueue() {
         int gate = oneGate();
         int end = between(0, 1);
-        int place = between(0, 5);
+        int place = between(0, Math.max(0, model.gate(gate, 4 + Math.floorMod(end, 2))));
         due("queued(" + gate + ", " + end + ", " + place + ")", bank.queued(gate, end, place),
                 model.queued(gate, end, place));
     }

@@ -443,12 +443,35 @@ public final class ToldTest {
         Check.due("both queues together", bank.count(10), 1);
     }
 
-    private static void tellingChangesNothing() {
+    private static TurnstileBank busy() {
         TurnstileBank bank = twoGates();
         Check.runText(bank, "i0p0i0p1si0t9o1n0t2x1");
-        int states = Check.statesWithRoom(bank);
-        String once = Check.told(bank);
-        Check.due("told twice", Check.told(bank).equals(once));
-        Check.due("states", bank.count(11), states);
+        bank.undo();
+        bank.run();
+        return bank;
+    }
+
+    private static int askAll(TurnstileBank bank) {
+        for (int number = -1; number <= 3; number++) {
+            for (int what = -1; what <= 11; what++) {
+                bank.gate(number, what);
+                bank.person(number, what);
+                bank.pool(number, what);
+                bank.passOf(number, what);
+                bank.event(number, what);
+            }
+            bank.passesIn(number);
+            bank.queued(number, 0, 0);
+        }
+        return bank.count(11);
+    }
+
+    private static void tellingChangesNothing() {
+        Check.due("all is as before", Whole.state(Whole.then(ToldTest::busy, x -> x.passesIn(0)))
+                .equals(Whole.state(ToldTest::busy)));
+        TurnstileBank bank = busy();
+        int states = bank.count(11);
+        Check.due("nothing is recorded", askAll(bank), states);
+        Check.due("nothing is recorded", bank.undo(), states - 1);
     }
 }
