@@ -375,7 +375,7 @@ public final class GatesPoolsPassesEdgesTest {
             Whole.refused("setFare(" + fare + ")", Scenes::busy, x -> x.setFare(fare), BAD_VALUE);
         }
         for (int fare : new int[] {0, 1, 10, 999, 1000}) {
-            Whole.act("setFare(" + fare + ")", Scenes::gateIn3, x -> x.setFare(fare), 10);
+            Whole.act("setFare(" + fare + ")", Scenes::closing, x -> x.setFare(fare), 10);
         }
     }
 

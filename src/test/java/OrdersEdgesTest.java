@@ -30,6 +30,9 @@ public final class OrdersEdgesTest {
         promise19AtMost4States();
         promise19TheTextStays();
         promise19IsNoAct();
+        promise19TimesOfAGateAreRestored();
+        promise19WaitsAreRestored();
+        promise19NumbersAreGivenAnew();
         callsThatAreNoActs();
         Check.end("OrdersEdgesTest");
     }
@@ -488,6 +491,70 @@ public final class OrdersEdgesTest {
         Check.due("an act, undone, leaves nothing", Whole.of(Whole.then(
                 Whole.then(Scenes::busy, x -> x.fail(1)), x -> x.undo()))
                 .equals(Whole.of(Scenes::busy)));
+    }
+
+    /** "A state is everything": the times of a gate, which nothing tells, too. */
+    private static void promise19TimesOfAGateAreRestored() {
+        TurnstileBank bank = Scenes.inOnly(3, 5, 7);
+        bank.addGate(2, 6, 8, 4);
+        bank.enter(0, 0, false);
+        bank.enter(0, 1, false);
+        bank.pass(100);
+        for (int i = 0; i < 4; i++) {
+            bank.undo();
+        }
+        Check.due("one gate", bank.count(1), 1);
+        bank.addGate(2, 1, 2, 9);
+        bank.enter(0, 0, false);
+        Check.due("told ahead", bank.passesIn(0), 1 + 3 + 5 + 7);
+        int[] ticks = {1, 3, 5, 7};
+        int[] left = {3, 5, 7, 0};
+        for (int i = 0; i < ticks.length; i++) {
+            Check.due("passed", bank.pass(ticks[i]), i == 3 ? 1 : 0);
+            Check.due("left", bank.gate(0, 2), left[i]);
+            bank.setFare(i);
+            bank.undo();
+        }
+        bank.exit(1, 0);
+        Check.due("the gate that was added at last", bank.passesIn(0), 1 + 1 + 2 + 9);
+        Check.due("not yet", bank.pass(12), 0);
+        Check.due("gone", bank.pass(1), 1);
+    }
+
+    /** Behind run() the same person may wait somewhere else, and since another tick. */
+    private static void promise19WaitsAreRestored() {
+        TurnstileBank bank = Scenes.gates(1);
+        bank.pass(10);
+        bank.setDirection(0, 2);
+        bank.enter(0, 0, false);
+        bank.pass(6);
+        bank.setDirection(0, 1);
+        Check.due("waits to go out", runOf(bank, "t4o0n0t3"), 3);
+        Check.due("since then", bank.person(0, 5), 3);
+        bank.undo();
+        Check.due("waits to go in", bank.person(0, 0), 1);
+        Check.due("since it came", bank.person(0, 5), 6);
+        Check.due("at gate 0", bank.person(0, 3), 0);
+    }
+
+    /** A number that is given anew tells nothing of who had it before undo(). */
+    private static void promise19NumbersAreGivenAnew() {
+        TurnstileBank bank = Scenes.gates(1, 1);
+        Check.due("refused", runOf(bank, "i1st3i0p3t5"), 4);
+        bank.undo();
+        Check.due("nobody", bank.count(2), 0);
+        Check.due("no person 0", bank.person(0, 0), UNKNOWN);
+        Check.due("pass 3 is free", bank.passOf(3, 2), NONE);
+        Check.due("enter(0, 2, false)", bank.enter(0, 2, false), 0);
+        int[] due = {1, 2, 0, 0, 0, 0};
+        for (int what = 0; what < due.length; what++) {
+            Check.due("person(0, " + what + ")", bank.person(0, what), due[what]);
+        }
+        Check.due("enter(1, 1, true)", bank.enter(1, 1, true), 1);
+        int[] other = {1, 1, 1, 1, 0, 0};
+        for (int what = 0; what < other.length; what++) {
+            Check.due("person(1, " + what + ")", bank.person(1, what), other[what]);
+        }
     }
 
     /** What is no act changes nothing, and records nothing. */

@@ -37,6 +37,18 @@ final class Scenes {
     }
 
     /**
+     * Leaves 3 of the 4 states or more that there were, the latest one of an act: behind an undo()
+     * the state that is to be recorded next could be one that is left from before.
+     */
+    private static void leaveThreeStates(TurnstileBank bank) {
+        bank.setFare(7);
+        bank.setFare(8);
+        bank.undo();
+        bank.undo();
+        bank.setFare(10);
+    }
+
+    /**
      * Gate 0 (in only; 2, 2, 2) is in a state; if it is at work, person 0 is in it. Person 1 waits
      * outside. The history is left with at most 3 states.
      */
@@ -56,12 +68,11 @@ final class Scenes {
             bank.pinch(0);
             bank.pass(1);
         }
-        bank.setFare(10);
-        bank.undo();
+        leaveThreeStates(bank);
         return bank;
     }
 
-    static TurnstileBank gateIn3() {
+    static TurnstileBank closing() {
         return gateIn(CLOSING);
     }
 
@@ -80,8 +91,7 @@ final class Scenes {
         bank.fail(1);
         bank.exit(1, 1);
         bank.pass(1);
-        bank.setFare(10);
-        bank.undo();
+        leaveThreeStates(bank);
         return bank;
     }
 
@@ -89,8 +99,7 @@ final class Scenes {
     static TurnstileBank pinchTold() {
         TurnstileBank bank = gates(0);
         bank.pinch(0);
-        bank.setFare(10);
-        bank.undo();
+        leaveThreeStates(bank);
         Check.type(bank, "x0");
         return bank;
     }
@@ -114,9 +123,9 @@ final class Scenes {
         bank.enter(1, 8, false);
         bank.pinch(1);
         bank.pass(2);
-        bank.setFare(12);
-        bank.pinch(2);
+        leaveThreeStates(bank);
         bank.undo();
+        bank.setFare(12);
         Check.type(bank, "t1x0");
         return bank;
     }

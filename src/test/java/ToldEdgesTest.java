@@ -40,6 +40,9 @@ public final class ToldEdgesTest {
         promise26NotWithin500();
         promise26PinchTold();
         promise26AllGatesGoOn();
+        promise26WhoHasWaitedLonger();
+        promise26EachPoolForItself();
+        promise26FromThePresentStateOn();
         promise26ChangesNothing();
         promise27Bounds();
         promise27NobodyAndFull();
@@ -643,6 +646,69 @@ public final class ToldEdgesTest {
         Check.due("a tick later", bank.passesIn(5), 7);
         bank.fail(1);
         Check.due("room at once", bank.passesIn(5), 7);
+    }
+
+    /** Who comes next in the ticks that are told ahead is as in those that go by. */
+    private static void promise26WhoHasWaitedLonger() {
+        for (int later = -1; later <= 1; later++) {
+            TurnstileBank bank = Scenes.gates(0);
+            bank.enter(0, 0, false);
+            bank.pass(4);
+            bank.fail(0);
+            if (later < 0) {
+                bank.enter(0, 1, false);
+                bank.pass(1);
+            }
+            bank.exit(0, 0);
+            bank.pass(Math.max(later, 0));
+            if (later >= 0) {
+                bank.enter(0, 1, false);
+            }
+            bank.pass(3);
+            bank.repair(0);
+            Check.due("who wants out", bank.passesIn(0), later < 0 ? 8 : 4);
+            Check.due("who wants in", bank.passesIn(1), later < 0 ? 4 : 8);
+        }
+    }
+
+    /** The credit and the limit are those of the pool of the pass. */
+    private static void promise26EachPoolForItself() {
+        for (int rich = 0; rich <= 3; rich++) {
+            TurnstileBank bank = new TurnstileBank();
+            bank.addGate(1, 1, 1, 1);
+            for (int pool = 0; pool < 4; pool++) {
+                bank.addPool(1);
+                bank.addPass(pool);
+            }
+            bank.credit(rich, 10);
+            for (int pass = 0; pass < 4; pass++) {
+                bank.enter(0, pass, false);
+            }
+            for (int person = 0; person < 4; person++) {
+                Check.due("person " + person, bank.passesIn(person),
+                        person == rich ? 4 + person : NONE);
+            }
+        }
+    }
+
+    /** What was told ahead once is no part of what is told ahead later. */
+    private static void promise26FromThePresentStateOn() {
+        TurnstileBank bank = Scenes.inOnly(3, 5, 7);
+        bank.addGate(1, 4, 2, 6);
+        bank.enter(0, 0, false);
+        bank.enter(1, 1, true);
+        for (int ticks = 0; ticks < 14; ticks++) {
+            Check.due("gate 0", bank.passesIn(0), 16 - ticks);
+            Check.due("gate 1", bank.passesIn(1), 15 - ticks);
+            Check.due("gate 0 again", bank.passesIn(0), 16 - ticks);
+            bank.pass(1);
+        }
+        bank.setDirection(1, 2);
+        bank.pinch(0);
+        Check.due("pinched in the 6th tick of closing", bank.passesIn(0), 1 + 6 + 5 + 7);
+        Check.due("gate 1", bank.passesIn(1), 1);
+        bank.undo();
+        Check.due("not pinched", bank.passesIn(0), 2);
     }
 
     /** It only tells: for each of those who are there. */
