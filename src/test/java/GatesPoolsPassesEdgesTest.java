@@ -365,6 +365,11 @@ public final class GatesPoolsPassesEdgesTest {
             Check.due("passOf(" + pass + ", 1)", bank.passOf(pass, 1), 0);
             Check.due("passOf(11, 1)", bank.passOf(11, 1), pass < 11 ? 1 : 0);
         }
+        bank = Scenes.full();
+        for (int pass = 0; pass < 12; pass++) {
+            Check.due("of all the pools", bank.block(pass, true), pass + 1);
+        }
+        Check.due("of all the pools", bank.block(5, false), 11);
     }
 
     // ---- promise 8

@@ -22,6 +22,7 @@ public final class OrdersEdgesTest {
         promise18AllShortTexts();
         promise18FaultsChangeNothing();
         promise18TextOf50();
+        promise18GateOfEachOrder();
         promise18NumberOfOrders();
         promise18UpToTheFirstError();
         promise18NoneIsCarriedOut();
@@ -349,6 +350,23 @@ public final class OrdersEdgesTest {
     }
 
     // ---- promise 18: orders
+
+    /** "a gate (a digit)": each gate, for i, o and x. */
+    private static void promise18GateOfEachOrder() {
+        for (int gate = 0; gate < 8; gate++) {
+            TurnstileBank bank = Scenes.gates(1, 1, 1, 1, 1, 1, 1, 1);
+            bank.enter(0, 0, false);
+            bank.pass(4);
+            Check.due("run()", runOf(bank, "i" + gate + "o" + gate + "n0x" + gate), 3);
+            for (int other = 0; other < 8; other++) {
+                Check.due("who wants in", bank.queued(other, 0, 0), other == gate ? 1 : NONE);
+                Check.due("who wants out", bank.queued(other, 1, 0), other == gate ? 0 : NONE);
+                Check.due("pinch told", bank.gate(other, 10), other == gate ? 1 : 0);
+            }
+            Check.due("who wants in is at", bank.person(1, 3), gate);
+            Check.due("who wants out is at", bank.person(0, 3), gate);
+        }
+    }
 
     /** "Returns the number of orders that were carried out". */
     private static void promise18NumberOfOrders() {

@@ -406,6 +406,9 @@ public final class PeopleEdgesTest {
             int in = state;
             Whole.refused("repair(0) in state " + in, () -> Scenes.gateIn(in), x -> x.repair(0),
                     NOT_POSSIBLE);
+            Whole.refused("repair(0) in state " + in + ", pinch told",
+                    Whole.then(() -> Scenes.gateIn(in), x -> x.pinch(0)), x -> x.repair(0),
+                    NOT_POSSIBLE);
         }
         Whole.act("out of order", () -> Scenes.gateIn(5), x -> x.repair(0), 2);
         TurnstileBank bank = Scenes.gateIn(5);

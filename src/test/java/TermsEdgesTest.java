@@ -1,3 +1,4 @@
+import java.util.function.IntUnaryOperator;
 import java.util.function.Supplier;
 
 /**
@@ -35,6 +36,7 @@ public final class TermsEdgesTest {
         thirdPinch();
         pinchesOfTheSamePersonAlone();
         outageInEachState();
+        outageByTheThirdPinch();
         outageForgetsThePinch();
         outOfOrderDoesNothing();
         repairedIsClosed();
@@ -216,6 +218,26 @@ public final class TermsEdgesTest {
         Check.due("the inner one", taken(bank), 0);
         bank.pass(3);
         Check.due("then the first outside", taken(bank), 2);
+        bank.pass(3);
+        Check.due("then the second", taken(bank), 1);
+        bank = Scenes.gates(1, 1);
+        bank.enter(0, 0, false);
+        bank.enter(0, 1, false);
+        bank.pass(8);
+        bank.fail(0);
+        bank.exit(1, 1);
+        bank.pass(2);
+        bank.enter(0, 2, false);
+        bank.pass(1);
+        bank.exit(0, 0);
+        bank.divert(1, 0);
+        Check.due("behind", bank.queued(0, 1, 1), 1);
+        Check.due("has waited longest", bank.person(1, 5), 3);
+        bank.setDirection(0, 0);
+        bank.repair(0);
+        Check.due("the outer one", taken(bank), 2);
+        bank.pass(3);
+        Check.due("then the first inside", taken(bank), 0);
         bank.pass(3);
         Check.due("then the second", taken(bank), 1);
     }
@@ -631,6 +653,42 @@ public final class TermsEdgesTest {
             Check.due("the queue stays", bank.queued(0, 0, 0), 1);
             Check.due("people by the pool", bank.pool(0, 2), 0);
         }
+    }
+
+    private static void all(String of, IntUnaryOperator got, int... due) {
+        for (int what = 0; what < due.length; what++) {
+            Check.due(of + ", " + what, got.applyAsInt(what), due[what]);
+        }
+    }
+
+    /** "(in either way)": all that is told behind the third pinch, on the way in and out. */
+    private static void outageByTheThirdPinch() {
+        TurnstileBank bank = Scenes.gates(2, 0);
+        bank.enter(1, 7, false);
+        bank.enter(1, 8, true);
+        bank.enter(1, -1, false);
+        Check.runText(bank, "t3x1t3x1t3x1");
+        Check.due("inside by the third pinch", bank.pass(1), 1);
+        all("gate 1", what -> bank.gate(1, what), 0, 5, 0, NONE, 2, 0, 1, 0, 0, 3, 0);
+        all("person 0", what -> bank.person(0, what), 3, 7, 0, NONE, 0, 0);
+        all("person 1", what -> bank.person(1, what), 1, 8, 1, 1, 0, 10);
+        all("pool 0", what -> bank.pool(0, what), 990, 40, 1, 12, 10);
+        Check.due("in use", bank.passOf(7, 2), 0);
+        Check.due("the queue stays", bank.queued(1, 0, 1), 2);
+        Check.due("people in both queues", bank.repair(1), 2);
+        bank.exit(1, 0);
+        bank.setDirection(1, 2);
+        Check.runText(bank, "t3x1t3x1t3x1");
+        Check.due("gone by the third pinch", bank.pass(1), 1);
+        all("gate 1", what -> bank.gate(1, what), 2, 5, 0, NONE, 2, 0, 1, 1, 0, 6, 0);
+        all("person 0", what -> bank.person(0, what), 5, 7, 0, NONE, 0, 0);
+        all("person 1", what -> bank.person(1, what), 1, 8, 1, 1, 0, 20);
+        all("pool 0", what -> bank.pool(0, what), 990, 40, 0, 12, 10);
+        Check.due("in use no more", bank.passOf(7, 2), NONE);
+        all("all", what -> bank.count(what), 20, 2, 3, 0, 2, 0, 1, 0, 10, 10, 1);
+        bank.enter(0, 7, false);
+        bank.setDirection(0, 1);
+        Check.due("the pass can be used again", bank.pass(4), 1);
     }
 
     /** "a pinch that was told is forgotten": also with nobody in it. */

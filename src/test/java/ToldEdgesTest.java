@@ -286,6 +286,7 @@ public final class ToldEdgesTest {
         bank.block(3, false);
         bank.pass(9);
         Check.due("for good", bank.person(0, 4), 2);
+        Check.due("the pass that was refused", bank.person(0, 1), 3);
         Check.due("outside for good", bank.person(0, 0), 0);
         Check.due("not inside", bank.exit(0, 0), NOT_POSSIBLE);
         bank.enter(0, 3, false);
@@ -760,6 +761,29 @@ public final class ToldEdgesTest {
             Check.due("gone", bank.count(6), tick == 4 ? 1 : 0);
             bank.pass(1);
         }
+        promise27SeveralOfEach();
+    }
+
+    private static void promise27SeveralOfEach() {
+        TurnstileBank bank = Scenes.gates(1, 1, 2);
+        for (int person = 0; person < 6; person++) {
+            bank.enter(person % 2, person, false);
+        }
+        row("six wait", what -> bank.count(what), 0, 3, 6, 0, 6, 0, 0, 0, 0);
+        bank.pass(1);
+        row("two in gates", what -> bank.count(what), 1, 3, 6, 0, 4, 2, 0, 0, 20);
+        bank.pass(3);
+        bank.exit(2, 0);
+        bank.exit(2, 1);
+        row("two inside", what -> bank.count(what), 4, 3, 6, 2, 4, 0, 0, 0, 20);
+        bank.pass(1);
+        row("three in gates", what -> bank.count(what), 5, 3, 6, 1, 2, 3, 0, 0, 40);
+        bank.pass(7);
+        row("two gone", what -> bank.count(what), 12, 3, 6, 4, 0, 0, 2, 0, 60);
+        bank.enter(0, -1, false);
+        bank.enter(1, -1, false);
+        bank.pass(20);
+        row("two refused", what -> bank.count(what), 32, 3, 8, 4, 0, 0, 2, 2, 60);
     }
 
     /** "the gate with the longest queues together (the lowest of several; NONE without gates)". */
