@@ -9,7 +9,7 @@ import java.util.regex.Pattern;
  * The document told a second time, with lists and copies in place of rows: what the class counts
  * on its way, this one counts anew each time it is asked.
  */
-final class Model {
+final class Model implements Face {
     private static final int UNKNOWN = -1;
     private static final int BAD_VALUE = -2;
     private static final int FULL = -3;
@@ -107,7 +107,8 @@ final class Model {
         return index >= 0 && index < list.size();
     }
 
-    int addGate(int direction, int opening, int hold, int closing) {
+    @Override
+    public int addGate(int direction, int opening, int hold, int closing) {
         if (direction < 0 || direction > 2 || opening < 1 || opening > 10 || hold < 1 || hold > 20
                 || closing < 1 || closing > 10) {
             return BAD_VALUE;
@@ -125,7 +126,8 @@ final class Model {
         return s.gates.size() - 1;
     }
 
-    int setDirection(int gate, int direction) {
+    @Override
+    public int setDirection(int gate, int direction) {
         if (!has(s.gates, gate)) {
             return UNKNOWN;
         }
@@ -138,7 +140,8 @@ final class Model {
         return previous;
     }
 
-    int addPool(int limit) {
+    @Override
+    public int addPool(int limit) {
         if (limit < 1 || limit > 40) {
             return BAD_VALUE;
         }
@@ -152,7 +155,8 @@ final class Model {
         return s.limits.size() - 1;
     }
 
-    int credit(int pool, int amount) {
+    @Override
+    public int credit(int pool, int amount) {
         if (!has(s.limits, pool)) {
             return UNKNOWN;
         }
@@ -167,7 +171,8 @@ final class Model {
         return s.credits.get(pool);
     }
 
-    int addPass(int pool) {
+    @Override
+    public int addPass(int pool) {
         if (!has(s.limits, pool)) {
             return UNKNOWN;
         }
@@ -180,7 +185,8 @@ final class Model {
         return s.passPools.size() - 1;
     }
 
-    int block(int pass, boolean blocked) {
+    @Override
+    public int block(int pass, boolean blocked) {
         if (!has(s.passPools, pass)) {
             return UNKNOWN;
         }
@@ -192,7 +198,8 @@ final class Model {
         return (int) s.passBlocked.stream().filter(one -> one).count();
     }
 
-    int setFare(int fare) {
+    @Override
+    public int setFare(int fare) {
         if (fare < 0 || fare > 1000) {
             return BAD_VALUE;
         }
@@ -202,7 +209,8 @@ final class Model {
         return previous;
     }
 
-    int enter(int gate, int pass, boolean slow) {
+    @Override
+    public int enter(int gate, int pass, boolean slow) {
         if (!has(s.gates, gate) || (pass != -1 && !has(s.passPools, pass))) {
             return UNKNOWN;
         }
@@ -215,7 +223,8 @@ final class Model {
         return s.people.size() - 1;
     }
 
-    int exit(int gate, int person) {
+    @Override
+    public int exit(int gate, int person) {
         if (!has(s.gates, gate) || !has(s.people, person)) {
             return UNKNOWN;
         }
@@ -229,7 +238,8 @@ final class Model {
         return s.gates.get(gate).inner.size();
     }
 
-    int divert(int gate, int other) {
+    @Override
+    public int divert(int gate, int other) {
         if (!has(s.gates, gate) || !has(s.gates, other)) {
             return UNKNOWN;
         }
@@ -252,7 +262,8 @@ final class Model {
         return moved;
     }
 
-    int pinch(int gate) {
+    @Override
+    public int pinch(int gate) {
         if (!has(s.gates, gate)) {
             return UNKNOWN;
         }
@@ -268,7 +279,8 @@ final class Model {
         return g.state.equals("closing") ? 1 : 0;
     }
 
-    int fail(int gate) {
+    @Override
+    public int fail(int gate) {
         if (!has(s.gates, gate)) {
             return UNKNOWN;
         }
@@ -282,7 +294,8 @@ final class Model {
         return person;
     }
 
-    int repair(int gate) {
+    @Override
+    public int repair(int gate) {
         if (!has(s.gates, gate)) {
             return UNKNOWN;
         }
@@ -296,7 +309,8 @@ final class Model {
         return g.outer.size() + g.inner.size();
     }
 
-    int pass(int ticks) {
+    @Override
+    public int pass(int ticks) {
         if (ticks < 1 || ticks > 200) {
             return BAD_VALUE;
         }
@@ -438,7 +452,8 @@ final class Model {
 
     // ---- orders
 
-    int type(char character) {
+    @Override
+    public int type(char character) {
         if (text.length() == 50) {
             return FULL;
         }
@@ -446,13 +461,15 @@ final class Model {
         return text.length();
     }
 
-    int clearText() {
+    @Override
+    public int clearText() {
         int before = text.length();
         text = "";
         return before;
     }
 
-    int run() {
+    @Override
+    public int run() {
         String gate = s.gates.isEmpty() ? "[^\\s\\S]" : "[0-" + (s.gates.size() - 1) + "]";
         String order = "(?:i" + gate + "(?:p(?:0|[1-9][0-9]?))?s?|o" + gate
                 + "n(?:0|[1-9][0-9]?)|t[1-9][0-9]?|x" + gate + ")";
@@ -498,7 +515,8 @@ final class Model {
         }
     }
 
-    int undo() {
+    @Override
+    public int undo() {
         if (history.isEmpty()) {
             return NONE;
         }
@@ -512,7 +530,8 @@ final class Model {
         return what < 0 || what >= all.length ? BAD_VALUE : all[what];
     }
 
-    int gate(int gate, int what) {
+    @Override
+    public int gate(int gate, int what) {
         if (!has(s.gates, gate)) {
             return UNKNOWN;
         }
@@ -523,7 +542,8 @@ final class Model {
                 g.in, g.out, g.refused, g.pinches, g.told ? 1 : 0);
     }
 
-    int queued(int gate, int end, int place) {
+    @Override
+    public int queued(int gate, int end, int place) {
         if (!has(s.gates, gate)) {
             return UNKNOWN;
         }
@@ -534,7 +554,8 @@ final class Model {
         return has(queue, place) ? queue.get(place) : NONE;
     }
 
-    int person(int person, int what) {
+    @Override
+    public int person(int person, int what) {
         if (!has(s.people, person)) {
             return UNKNOWN;
         }
@@ -542,7 +563,8 @@ final class Model {
         return told(what, p.where, p.pass, p.slow ? 1 : 0, p.gate, p.reason, p.waited);
     }
 
-    int pool(int pool, int what) {
+    @Override
+    public int pool(int pool, int what) {
         if (!has(s.limits, pool)) {
             return UNKNOWN;
         }
@@ -551,14 +573,16 @@ final class Model {
                 s.paid.get(pool));
     }
 
-    int passOf(int pass, int what) {
+    @Override
+    public int passOf(int pass, int what) {
         if (!has(s.passPools, pass)) {
             return UNKNOWN;
         }
         return told(what, s.passPools.get(pass), s.passBlocked.get(pass) ? 1 : 0, user(pass));
     }
 
-    int event(int event, int what) {
+    @Override
+    public int event(int event, int what) {
         if (event < 0 || what < 0 || what > 3) {
             return BAD_VALUE;
         }
@@ -569,7 +593,8 @@ final class Model {
         return told(what, e.tick, e.gate, e.person, e.kind);
     }
 
-    int passesIn(int person) {
+    @Override
+    public int passesIn(int person) {
         if (!has(s.people, person)) {
             return UNKNOWN;
         }
@@ -595,7 +620,8 @@ final class Model {
         return (int) s.people.stream().filter(p -> p.where == where).count();
     }
 
-    int count(int what) {
+    @Override
+    public int count(int what) {
         int longest = NONE;
         for (int gate = s.gates.size() - 1; gate >= 0; gate--) {
             if (longest == NONE || gate(gate, 4) + gate(gate, 5)

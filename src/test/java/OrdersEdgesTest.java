@@ -1,3 +1,5 @@
+import java.util.Arrays;
+
 /**
  * Promises 16 to 19, each sentence that names a boundary case: the empty and the full text, each
  * place of an order, each order that is refused, the empty and the full history.
@@ -31,6 +33,7 @@ public final class OrdersEdgesTest {
         promise19AtMost4States();
         promise19TheTextStays();
         promise19IsNoAct();
+        promise19FourActsAreRestored();
         promise19TimesOfAGateAreRestored();
         promise19WaitsAreRestored();
         promise19NumbersAreGivenAnew();
@@ -511,6 +514,76 @@ public final class OrdersEdgesTest {
                 .equals(Whole.of(Scenes::busy)));
     }
 
+    /**
+     * Gate 0 is out of order, with counters; pool 1 has paid all of its credit; pass 3, which is in
+     * use, is blocked; a slow person without a pass waits; the history is full.
+     */
+    private static TurnstileBank worn() {
+        TurnstileBank bank = new TurnstileBank();
+        bank.addGate(0, 1, 1, 2);
+        bank.addGate(0, 2, 1, 1);
+        bank.addPool(40);
+        bank.addPool(3);
+        bank.credit(0, 50);
+        bank.credit(1, 20);
+        for (int pass = 0; pass < 5; pass++) {
+            bank.addPass(pass < 2 ? 0 : 1);
+        }
+        bank.enter(0, 2, false);
+        bank.enter(0, 3, true);
+        bank.enter(0, -1, false);
+        bank.enter(0, 0, false);
+        runOf(bank, "t3x0t26o0n0t2x0t20");
+        bank.block(3, true);
+        bank.fail(0);
+        bank.enter(0, -1, true);
+        bank.enter(0, 1, true);
+        bank.exit(0, 3);
+        return bank;
+    }
+
+    private static TurnstileBank worn(int[] acts, int many) {
+        TurnstileBank bank = worn();
+        for (int i = 0; i < many; i++) {
+            switch (acts[i]) {
+                case 0 -> bank.repair(0);
+                case 1 -> bank.pass(40);
+                case 2 -> runOf(bank, "x0t3i1st9o1n1x1t9");
+                case 3 -> bank.credit(1, 30);
+                case 4 -> bank.block(3, false);
+                case 5 -> bank.setDirection(0, 2);
+                case 6 -> bank.divert(0, 1);
+                case 7 -> bank.pass(3);
+                case 8 -> bank.fail(0);
+                case 9 -> bank.enter(0, 4, false);
+                default -> bank.pinch(0);
+            }
+        }
+        return bank;
+    }
+
+    /** "removes and restores the latest one": four times, each state as it was. */
+    private static void promise19FourActsAreRestored() {
+        int[][] rows = {{0, 1, 2, 3}, {0, 2, 4, 1}, {0, 3, 9, 1}, {4, 0, 5, 1}, {6, 7, 7, 1},
+            {0, 7, 8, 0}, {0, 10, 1, 8}, {3, 9, 0, 1}, {0, 7, 10, 7}, {5, 0, 7, 1}};
+        for (int[] acts : rows) {
+            for (int times = 0; times <= 4; times++) {
+                int undone = times;
+                Check.due(Arrays.toString(acts) + ", undone " + undone, Whole.state(
+                        Whole.undone(() -> worn(acts, 4), undone))
+                        .equals(Whole.state(() -> worn(acts, 4 - undone))));
+            }
+        }
+        TurnstileBank bank = worn();
+        Check.due("out of order", bank.gate(0, 1), 5);
+        Check.due("in, out, refused, pinches", bank.gate(0, 6) * 1000 + bank.gate(0, 7) * 100
+                + bank.gate(0, 8) * 10 + bank.gate(0, 9), 3112);
+        Check.due("credit", bank.pool(1, 0), 0);
+        Check.due("fares", bank.pool(1, 4), 20);
+        Check.due("in use", bank.passOf(3, 2), 1);
+        Check.due("blocked", bank.passOf(3, 1), 1);
+    }
+
     /** "A state is everything": the times of a gate, which nothing tells, too. */
     private static void promise19TimesOfAGateAreRestored() {
         TurnstileBank bank = Scenes.inOnly(3, 5, 7);
@@ -572,6 +645,46 @@ public final class OrdersEdgesTest {
         int[] other = {1, 1, 1, 1, 0, 0};
         for (int what = 0; what < other.length; what++) {
             Check.due("person(1, " + what + ")", bank.person(1, what), other[what]);
+        }
+        afterOneWhoWantedOut();
+        poolsAndPassesAreGivenAnew();
+    }
+
+    private static void afterOneWhoWantedOut() {
+        for (String text : new String[] {"i1p3st6o1n0", "i1p3st6o1n0t1", "i1p3st6o1n0t9"}) {
+            TurnstileBank bank = Scenes.gates(0, 0);
+            Check.due("run()", runOf(bank, text) >= 3);
+            bank.undo();
+            Check.due("nobody", bank.count(2), 0);
+            Check.due("enter(0, 2, false)", bank.enter(0, 2, false), 0);
+            int[] due = {1, 2, 0, 0, 0, 0};
+            for (int what = 0; what < due.length; what++) {
+                Check.due("person(0, " + what + ")", bank.person(0, what), due[what]);
+            }
+            Check.due("inside, not gone", bank.pass(4), 1);
+            Check.due("inside, not gone", bank.person(0, 0), 3);
+            Check.due("event", bank.event(0, 3), 2);
+            Check.due("gate 1 was not used", bank.gate(1, 6) + bank.gate(1, 7), 0);
+        }
+    }
+
+    private static void poolsAndPassesAreGivenAnew() {
+        TurnstileBank bank = new TurnstileBank();
+        bank.addPool(3);
+        Check.due("addPool(1)", bank.addPool(1), 1);
+        bank.undo();
+        Check.due("addPool(2)", bank.addPool(2), 1);
+        int[] pool = {0, 2, 0, 0, 0};
+        for (int what = 0; what < pool.length; what++) {
+            Check.due("pool(1, " + what + ")", bank.pool(1, what), pool[what]);
+        }
+        for (int from = 0; from <= 1; from++) {
+            int before = bank.pool(1 - from, 3);
+            Check.due("addPass", bank.addPass(from), from);
+            bank.undo();
+            Check.due("addPass to another pool", bank.addPass(1 - from), from);
+            Check.due("its pool", bank.passOf(from, 0), 1 - from);
+            Check.due("its pool's passes", bank.pool(1 - from, 3), before + 1);
         }
     }
 

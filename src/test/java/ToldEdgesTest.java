@@ -814,6 +814,17 @@ public final class ToldEdgesTest {
         Check.due("outer or inner alike", bank.count(10), 1);
         bank.enter(2, -1, false);
         Check.due("both together", bank.count(10), 2);
+        int[][] lengths = {{2, 4, 3}, {3, 2, 4}, {4, 3, 2}, {3, 4, 4}, {4, 3, 4}, {1, 5, 5, 6, 6}};
+        int[] longest = {1, 2, 0, 1, 0, 3};
+        for (int row = 0; row < lengths.length; row++) {
+            bank = Scenes.gates(new int[lengths[row].length]);
+            for (int gate = 0; gate < lengths[row].length; gate++) {
+                for (int person = 0; person < lengths[row][gate]; person++) {
+                    bank.enter(gate, -1, false);
+                }
+            }
+            Check.due("the longest of row " + row, bank.count(10), longest[row]);
+        }
     }
 
     /** "11 for the states in the history, 12 for the length of the text": from none to the most. */

@@ -33,6 +33,11 @@ final class Whole {
 
     /** All that is told but for the text and the history. */
     static String state(Supplier<TurnstileBank> made) {
+        return told(() -> new Face.Real(made.get()));
+    }
+
+    /** The same, of the class or of the model. */
+    static String told(Supplier<Face> made) {
         StringBuilder all = new StringBuilder();
         bankAndEvents(made.get(), all);
         gatesAndPools(made.get(), all);
@@ -87,7 +92,7 @@ final class Whole {
         Check.due(call + ", history used up", bank.undo(), TurnstileBank.NONE);
     }
 
-    private static void bankAndEvents(TurnstileBank bank, StringBuilder all) {
+    private static void bankAndEvents(Face bank, StringBuilder all) {
         for (int what = 0; what <= 10; what++) {
             all.append(bank.count(what)).append(' ');
         }
@@ -99,7 +104,7 @@ final class Whole {
         }
     }
 
-    private static void gatesAndPools(TurnstileBank bank, StringBuilder all) {
+    private static void gatesAndPools(Face bank, StringBuilder all) {
         for (int gate = 0; gate < 8; gate++) {
             all.append("\ngate");
             for (int what = 0; what <= 10; what++) {
@@ -126,7 +131,7 @@ final class Whole {
         }
     }
 
-    private static void people(TurnstileBank bank, StringBuilder all) {
+    private static void people(Face bank, StringBuilder all) {
         for (int person = 0; person < bank.count(2); person++) {
             all.append("\nperson");
             for (int what = 0; what <= 5; what++) {
