@@ -35,6 +35,11 @@ public final class Breaks {
         boolean isNothing() {
             return name.startsWith("nothing: ");
         }
+
+        /** A change of what the document leaves free: no test may notice it. */
+        boolean isFree() {
+            return name.startsWith("free: ");
+        }
     }
 
     private final List<String> pieces = new ArrayList<>();
@@ -53,7 +58,10 @@ public final class Breaks {
         System.exit(all.wrong.isEmpty() ? 0 : 1);
     }
 
-    /** "== piece", "-- break", then "<<<", what is replaced, ">>>", what by. "-- nothing: why". */
+    /**
+     * "== piece", "-- break", then "<<<", what is replaced, ">>>", what by. "-- nothing: why" tells
+     * that nothing breaks the piece, "-- free: change" that no test may notice the change.
+     */
     private void readList(List<String> lines) {
         Break last = null;
         StringBuilder text = new StringBuilder();
@@ -154,11 +162,11 @@ public final class Breaks {
             wrong.add("does not compile: " + name + "\n" + errors);
             return;
         }
-        String noticed = noticedBy(folder);
-        if (noticed.isEmpty()) {
-            wrong.add("NOT NOTICED: " + name);
+        String noticed = noticedBy(folder, one.isFree());
+        if (noticed.isEmpty() != one.isFree()) {
+            wrong.add((noticed.isEmpty() ? "NOT NOTICED: " : noticed + " NOTICES ") + name);
         } else {
-            System.out.println(name + ": " + noticed);
+            System.out.println(name + ": " + (one.isFree() ? "no test" : noticed));
         }
     }
 
@@ -176,12 +184,13 @@ public final class Breaks {
     }
 
     /** LanguageTest looks at the text alone, and RandomRunsTest would notice too much by chance. */
-    private static String noticedBy(Path folder) throws IOException, InterruptedException {
+    private static String noticedBy(Path folder, boolean random)
+            throws IOException, InterruptedException {
         List<String> names = new ArrayList<>();
         try (Stream<Path> tests = Files.list(TESTS)) {
             tests.map(test -> test.getFileName().toString()).filter(test ->
                     test.endsWith("Test.java") && !test.startsWith("Language")
-                    && !test.startsWith("Random")).forEach(test ->
+                    && (random || !test.startsWith("Random"))).forEach(test ->
                     names.add(test.substring(0, test.length() - ".java".length())));
         }
         Collections.sort(names);

@@ -1,5 +1,6 @@
 import java.util.function.IntUnaryOperator;
 import java.util.function.Supplier;
+import java.util.function.ToIntFunction;
 
 /**
  * The terms on which the promises rest, each sentence that names a boundary case: the steps of a
@@ -836,5 +837,52 @@ public final class TermsEdgesTest {
                 default -> Check.due("repair", bank.repair(0), call == 3 ? NOT_POSSIBLE : 0);
             }
         }
+        theCall512OfEachKind();
+    }
+
+    /** Asked 511 times: person 0 is inside, 1 waits at gate 0, which is both ways; the text is t4. */
+    private static TurnstileBank asked511Times() {
+        TurnstileBank bank = Scenes.gates(0, 1);
+        bank.enter(0, 0, false);
+        bank.pass(4);
+        bank.enter(0, 1, true);
+        Check.type(bank, "t4");
+        for (int call = 22; call <= 511; call++) {
+            bank.count(call % 13);
+        }
+        return bank;
+    }
+
+    private static void last(String name, ToIntFunction<TurnstileBank> call, int due) {
+        Check.due("the 512th call, " + name, call.applyAsInt(asked511Times()), due);
+    }
+
+    private static void theCall512OfEachKind() {
+        last("addGate", x -> x.addGate(0, 1, 1, 1), 2);
+        last("setDirection", x -> x.setDirection(1, 0), 1);
+        last("addPool", x -> x.addPool(1), 1);
+        last("credit", x -> x.credit(0, 10), 1000);
+        last("addPass", x -> x.addPass(0), TurnstileBank.FULL);
+        last("block", x -> x.block(3, true), 1);
+        last("setFare", x -> x.setFare(3), 10);
+        last("enter", x -> x.enter(1, 3, true), 2);
+        last("exit", x -> x.exit(1, 0), 1);
+        last("divert", x -> x.divert(0, 1), 1);
+        last("pinch", x -> x.pinch(0), 0);
+        last("fail", x -> x.fail(0), NONE);
+        last("repair", x -> x.repair(0), NOT_POSSIBLE);
+        last("pass", x -> x.pass(200), 1);
+        last("type", x -> x.type('x'), 3);
+        last("clearText", x -> x.clearText(), 2);
+        last("run", x -> x.run(), 1);
+        last("undo", x -> x.undo(), 3);
+        last("gate", x -> x.gate(0, 6), 1);
+        last("queued", x -> x.queued(0, 0, 0), 1);
+        last("person", x -> x.person(0, 0), 3);
+        last("pool", x -> x.pool(0, 0), 990);
+        last("passOf", x -> x.passOf(0, 2), 0);
+        last("event", x -> x.event(0, 3), 2);
+        last("passesIn", x -> x.passesIn(1), 6);
+        last("count", x -> x.count(0), 4);
     }
 }
