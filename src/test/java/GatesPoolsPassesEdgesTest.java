@@ -281,6 +281,23 @@ public final class GatesPoolsPassesEdgesTest {
         Whole.refused("amount 100001", () -> credited(1000000), x -> x.credit(0, 100001),
                 BAD_VALUE);
         Whole.act("the other pool", () -> credited(1000000), x -> x.credit(1, 1), 1);
+        for (int pool = 0; pool < 2; pool++) {
+            int of = pool;
+            int room = 1000000 - Scenes.busy().pool(of, 0);
+            Whole.refused("much goes on, pool " + of, () -> nearlyAll(of, room),
+                    x -> x.credit(of, 8), NOT_POSSIBLE);
+            Whole.act("much goes on, pool " + of, () -> nearlyAll(of, room),
+                    x -> x.credit(of, 7), 1000000);
+        }
+    }
+
+    /** Much goes on, and a pool has 7 less than the most. */
+    private static TurnstileBank nearlyAll(int pool, int room) {
+        TurnstileBank bank = Scenes.busy();
+        for (int left = room - 7; left > 0; left -= Math.min(left, 100000)) {
+            Check.due("credit", bank.credit(pool, Math.min(left, 100000)) > 0);
+        }
+        return bank;
     }
 
     /** The credit is what is left of it: fares that were paid are no part of it. */
@@ -325,6 +342,7 @@ public final class GatesPoolsPassesEdgesTest {
         Check.due("passes of pool 1", bank.pool(1, 3), 5);
         Whole.refused("no free place", Scenes::full, x -> x.addPass(0), FULL);
         Whole.refused("no free place", Scenes::full, x -> x.addPass(3), FULL);
+        Whole.refused("no free place", Scenes::busy, x -> x.addPass(1), FULL);
         Whole.act("addPass, first", () -> credited(0), x -> x.addPass(1), 0);
         Whole.act("the last free place", GatesPoolsPassesEdgesTest::elevenPasses,
                 x -> x.addPass(0), 11);
@@ -365,6 +383,10 @@ public final class GatesPoolsPassesEdgesTest {
             Check.due("passOf(" + pass + ", 1)", bank.passOf(pass, 1), 0);
             Check.due("passOf(11, 1)", bank.passOf(11, 1), pass < 11 ? 1 : 0);
         }
+        bank = credited(1);
+        bank.addPass(1);
+        Check.due("the one that there is", bank.block(0, true), 1);
+        Check.due("none of the one that there is", bank.block(0, false), 0);
         bank = Scenes.full();
         for (int pass = 0; pass < 12; pass++) {
             Check.due("of all the pools", bank.block(pass, true), pass + 1);

@@ -84,6 +84,8 @@ public final class OrdersEdgesTest {
         TurnstileBank bank = typed(50);
         bank.type('x');
         Check.due("the first 50 stay", bank.run(), 25);
+        Check.due("a 51st behind run()", bank.type('t'), FULL);
+        Check.due("the text is as long", bank.count(12), 50);
         Check.due("state but for the text", Whole.state(() -> typed(50))
                 .equals(Whole.state(Scenes::busy)));
     }

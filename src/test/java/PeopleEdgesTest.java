@@ -95,6 +95,15 @@ public final class PeopleEdgesTest {
         Whole.act("the last free place", () -> people(39), x -> x.enter(0, -1, false), 39);
         Whole.refused("no free place", () -> people(40), x -> x.enter(0, -1, false), FULL);
         Whole.refused("no free place", () -> people(40), x -> x.enter(1, 11, true), FULL);
+        for (int gate = 0; gate < 8; gate++) {
+            int at = gate;
+            Whole.refused("no free place, gate " + at, Scenes::full, x -> x.enter(at, 3, true),
+                    FULL);
+        }
+        TurnstileBank bank = Scenes.full();
+        Check.due("one wants out", bank.exit(1, 0), 1);
+        bank.setFare(3);
+        Check.due("no free place, queues on both ends", bank.enter(1, 0, false), FULL);
         Check.due("person 39", people(40).person(39, 0), 1);
         Check.due("no person 40", people(40).person(40, 0), UNKNOWN);
     }

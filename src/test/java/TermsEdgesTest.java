@@ -186,6 +186,14 @@ public final class TermsEdgesTest {
         TurnstileBank bank = two(0, 0);
         Check.due("then the other", bank.pass(8), 2);
         Check.due("then the other", bank.event(0, 2), 1);
+        bank = Scenes.gates(0);
+        bank.enter(0, 0, false);
+        bank.pass(1);
+        bank.fail(0);
+        bank.repair(0);
+        bank.exit(0, 0);
+        bank.enter(0, 1, false);
+        Check.due("the same, in tick 1", taken(bank), 0);
     }
 
     /** "if only one queue has people, at this one". */
